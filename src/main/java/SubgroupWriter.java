@@ -214,11 +214,17 @@ public final class SubgroupWriter {
     }
 
     public int turn(int i) {
-        return changeOne(TURNED, i);
+        int refusal = refusalOfTurn(i);
+        if (refusal != 0) return refusal;
+        book.perform(TURNED, i, 0);
+        return book.rules.sizes[i];
     }
 
     public int over(int i) {
-        return changeOne(TURNED_OVER, i);
+        int refusal = refusalOfTurn(i);
+        if (refusal != 0) return refusal;
+        book.perform(TURNED_OVER, i, 0);
+        return book.rules.sizes[i];
     }
 
     public int join(int i, int j) {
@@ -421,12 +427,11 @@ public final class SubgroupWriter {
         }
     }
 
-    private int changeOne(int kind, int i) {
+    /** Why a RULE can't be TURNED, nor TURNED OVER; 0, if it can. */
+    private int refusalOfTurn(int i) {
         if (!book.rules.isRule(i)) return BAD;
         if (book.rules.sizes[i] == 0) return STATE;
-        if (book.isFull(1)) return FULL;
-        book.perform(kind, i, 0);
-        return book.rules.sizes[i];
+        return book.isFull(1) ? FULL : 0;
     }
 
     private int keptBooks() {
@@ -609,7 +614,8 @@ public final class SubgroupWriter {
         }
 
         int moved(int point, int letter) {
-            if (!isPoint(point) || !isLetter(letter)) return 0;
+            if (point < 0 || point >= points) return 0;
+            if (letter == 0 || letter < -generators || letter > generators) return 0;
             return takes[letter > 0 ? 2 * (letter - 1) : 2 * (-letter - 1) + 1][point];
         }
 
@@ -794,19 +800,14 @@ public final class SubgroupWriter {
         private final int[] wayLetters = new int[MOST_POINTS];
         private int reachedCount = 0;
 
-        void grow(Group group, int order) {
+        void plant() {
             Arrays.fill(turnOf, MISSING);
             reachedCount = 0;
             reach(0, NONE, NONE, 0);
-            if (order == DEEP) {
-                growDeep(group);
-            } else {
-                growBroad(group, order == LATE);
-            }
-            nameEdges(group);
         }
 
         private void reach(int point, int start, int letter, int length) {
+            if (reachedCount >= MOST_POINTS) return;
             from[point] = start;
             by[point] = letter;
             depth[point] = length;
@@ -815,7 +816,7 @@ public final class SubgroupWriter {
             reachedCount++;
         }
 
-        private void growBroad(Group group, boolean late) {
+        void growBroad(Group group, boolean late) {
             int all = 2 * group.generators;
             for (int k = 0; k < reachedCount && k < MOST_POINTS; k++) {
                 int here = inTurn[k];
@@ -827,7 +828,7 @@ public final class SubgroupWriter {
             }
         }
 
-        private void growDeep(Group group) {
+        void growDeep(Group group) {
             int here = 0;
             // each step reaches a POINT or leaves one for good
             for (int step = 0; step < 2 * MOST_POINTS; step++) {
@@ -849,20 +850,26 @@ public final class SubgroupWriter {
             return 0;
         }
 
-        private void nameEdges(Group group) {
+        void nameEdges(Group group) {
             signCount = 0;
             Arrays.fill(kinds, SIGN);
             Arrays.fill(signs, 0);
             for (int point = 0; point < group.points; point++) {
                 if (by[point] != NONE) kinds[branchOf(group, point)] = BRANCH;
             }
-            for (int e = 0; e < group.edges(); e++) {
-                if (kinds[e] == BRANCH) continue;
-                kinds[e] = kindOfSign(group.startOf(e), group.endOf(e));
-                signCount++;
-                signs[e] = signCount;
-                edgeOfSign[signCount] = e;
+            for (int point = 0; point < group.points; point++) {
+                for (int g = 0; g < group.generators; g++) {
+                    int e = group.edgeOf(point, g);
+                    if (kinds[e] != BRANCH) nameSign(e, kindOfSign(point, group.moved(point, g + 1)));
+                }
             }
+        }
+
+        private void nameSign(int e, int kind) {
+            kinds[e] = kind;
+            signCount++;
+            signs[e] = signCount;
+            edgeOfSign[signCount] = e;
         }
 
         /** The EDGE by which a POINT other than POINT 0 was reached. */
@@ -1250,7 +1257,13 @@ public final class SubgroupWriter {
         private void arrange(int o) {
             if (group == null) return;
             order = o;
-            tree.grow(group, o);
+            tree.plant();
+            if (o == DEEP) {
+                tree.growDeep(group);
+            } else {
+                tree.growBroad(group, o == LATE);
+            }
+            tree.nameEdges(group);
             rules.make(group, tree);
         }
 
