@@ -630,14 +630,11 @@ public final class SubgroupWriter {
 
         boolean comesToAll() {
             int seen = 1;
-            // each round reaches one POINT more, or none any more
+            // each round reaches one POINT more, or none any more; a, b, c alone come as far as A, B, C too
             for (int round = 0; round < points; round++) {
                 for (int point = 0; point < points; point++) {
-                    for (int g = 1; g <= generators; g++) {
-                        int other = moved(point, g);
-                        if ((seen >> point & 1) == 1) seen |= 1 << other;
-                        if ((seen >> other & 1) == 1) seen |= 1 << point;
-                    }
+                    if ((seen >> point & 1) == 0) continue;
+                    for (int g = 1; g <= generators; g++) seen |= 1 << moved(point, g);
                 }
             }
             return seen == (1 << points) - 1;

@@ -16,19 +16,20 @@ public final class ModelTest {
     private static int wrong = 0;
 
     public static void main(String[] args) throws Exception {
-        for (int run = 0; run < 400 && wrong < 20; run++) oneRun(run);
+        for (int run = 0; run < 600 && wrong < 20; run++) oneRun(run, run % 2 == 1);
         faults();
         if (wrong != 0) System.exit(1);
         System.out.println("the model agrees");
     }
 
-    private static void oneRun(int run) throws Exception {
+    /** Some runs are of DEEDS for the most part, for rows and texts take up many calls. */
+    private static void oneRun(int run, boolean deedful) throws Exception {
         SubgroupWriter x = new SubgroupWriter();
         Model m = new Model();
         StringBuilder trace = new StringBuilder();
         List<Object[]> plan = new ArrayList<>();
         for (int n = 0; n < 500 && wrong < 20; n++) {
-            if (plan.isEmpty()) plan.addAll(drawCalls(m, n));
+            if (plan.isEmpty()) plan.addAll(drawCalls(m, n, deedful));
             Object[] call = plan.remove(0);
             String name = (String) call[0];
             Class<?>[] types = new Class<?>[call.length - 1];
@@ -90,11 +91,11 @@ public final class ModelTest {
         return calls;
     }
 
-    private static List<Object[]> drawCalls(Model m, int n) {
+    private static List<Object[]> drawCalls(Model m, int n, boolean deedful) {
         List<Object[]> calls = new ArrayList<>();
         if (n > 5 && below(120) == 0 || n == 5 || n > 5 && m.points() == 0 && below(4) == 0) {
             int t = below(4);
-            calls.addAll(typed(t, below(8) == 0 ? spoilt(drawGroup()) : drawGroup()));
+            calls.addAll(typed(t, below(8) == 0 ? spoilt(drawGroup(false)) : drawGroup(deedful)));
             calls.add(call("fault", t));
             calls.add(call("group", t));
             return calls;
@@ -103,7 +104,7 @@ public final class ModelTest {
         int rules = m.count(6);
         int signs = m.count(4);
         int deeds = m.count(8);
-        switch (below(44)) {
+        switch (deedful ? 20 + below(21) : below(44)) {
             case 0: calls.add(call("row", about(0, 5), about(0, 40))); break;
             case 1: calls.add(call("lay", about(0, 5), about(0, 9), DRAW.nextInt())); break;
             case 2: calls.add(call("at", about(0, 5), about(0, 9))); break;
@@ -165,9 +166,9 @@ public final class ModelTest {
     }
 
     /** A GROUP whose RELATORS leave all POINTS where they are; not always one that comes to all. */
-    private static String drawGroup() {
+    private static String drawGroup(boolean full) {
         int points = 2 + below(4);
-        int generators = 1 + below(3);
+        int generators = full ? 2 + below(2) : 1 + below(3);
         int[][] to = new int[generators][points];
         StringBuilder out = new StringBuilder(blanks());
         for (int g = 0; g < generators; g++) {
@@ -181,10 +182,10 @@ public final class ModelTest {
             }
             out.append(blanks());
         }
-        int relators = below(4);
+        int relators = full ? 3 : below(4);
         for (int r = 0; r < relators; r++) {
             for (int attempt = 0; attempt < 300; attempt++) {
-                String word = drawRelator(generators);
+                String word = drawRelator(generators, full);
                 if (out.length() + word.length() + 4 <= 60 && leavesAll(to, word)) {
                     out.append('=').append(word).append(blanks());
                     break;
@@ -198,9 +199,9 @@ public final class ModelTest {
         return "   ".substring(0, below(5) == 0 ? below(3) : below(2));
     }
 
-    private static String drawRelator(int generators) {
+    private static String drawRelator(int generators, boolean full) {
         StringBuilder word = new StringBuilder();
-        int n = 1 + below(8);
+        int n = full && below(3) > 0 ? 6 + below(3) : 1 + below(8);
         for (int k = 0; k < n; k++) word.append((char) ((below(3) == 0 ? 'A' : 'a') + below(generators)));
         return word.toString();
     }
@@ -242,7 +243,7 @@ public final class ModelTest {
     /** Many spoilt TEXTS, for a FAULT has many kinds. */
     private static void faults() {
         for (int round = 0; round < 40000 && wrong < 20; round++) {
-            String text = spoilt(drawGroup());
+            String text = spoilt(drawGroup(false));
             SubgroupWriter x = new SubgroupWriter();
             x.text(0, text.length());
             byte[] bytes = new byte[text.length()];
@@ -958,7 +959,7 @@ public final class ModelTest {
             }
         }
 
-        /** The rank by how many sums of rows there are: that is P as often as the rank. */
+        /** How many rows are left, each cleared of those ahead of it, that are not 0. */
         private static int rankOf(List<int[]> matrix, int width, int p) {
             List<int[]> base = new ArrayList<>();
             for (int[] start : matrix) {

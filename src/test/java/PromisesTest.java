@@ -248,6 +248,8 @@ public final class PromisesTest {
         dueFault("a9 b10", 2);
         dueFault("a1=aa", 2);
         dueFault("a12 ", 2);
+        dueFault("a: b10", 1);
+        dueFault("a/ b10", 1);
         dueFault("a9012", 1);
         dueFault("a00", 2);
         dueFault("a0123", 5);
@@ -781,6 +783,11 @@ public final class PromisesTest {
         due("28: the least that fits", w.count(5), 31 - 2);
         due("28: three left", w.count(6), 3);
         dueRule("28: the least that fits", w, 2, 4, 5, 3, -5, -4, -3);
+        // RULES: 1 (8 times); 2 1 (7 times), joined 2 1 (15 times); 4 (8 times); 5 4 (7 times)
+        SubgroupWriter u = of("a10b01c01=bbbbbbbb=cbbbbbbb");
+        due("28: joined", u.join(1, 0), 16);
+        due("28: one of 16 too", u.shorten(), 2);
+        due("28: one of 16 too", u.count(5), 31 - 2 - 16);
         // the shorter RULES first, though they come later
         SubgroupWriter v = of("a10b01c01=bcbc=c");
         dueRule("28", v, 0, 1, 2, 1, 2);
