@@ -261,7 +261,8 @@ public final class SubgroupWriter {
     }
 
     public int undo(int n) {
-        if (n < 0 || n >= book.trail.size) return BAD;
+        // from the trail's end on there are no DEEDS, which is no wrong number: none are undone
+        if (n < 0 || n > book.trail.size) return BAD;
         int undone = book.trail.size - n;
         book.trail.size = n;
         book.replay();

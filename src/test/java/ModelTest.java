@@ -132,7 +132,7 @@ public final class ModelTest {
             case 30: case 31: calls.add(call("cut", about(0, rules - 1))); break;
             case 32: case 33: calls.add(call("solve", about(0, rules - 1), about(1, signs))); break;
             case 34: if (below(3) == 0) calls.add(call("shorten")); break;
-            case 35: if (deeds > 12 || below(4) == 0) calls.add(call("undo", about(0, deeds - 1))); break;
+            case 35: if (deeds > 12 || below(4) == 0) calls.add(call("undo", about(0, deeds))); break;
             case 36: calls.add(call("keep", about(0, 2))); break;
             case 37: calls.add(call("on", about(0, 2))); break;
             case 38: calls.add(call("lots", about(1, 10), below(9) == 0 ? about(1, 5) : 1 + below(2147483646))); break;
@@ -911,9 +911,9 @@ public final class ModelTest {
         }
 
         public int undo(int n) {
-            if (n < 0 || n >= deeds()) return -1;
+            if (n < 0 || n > deeds()) return -1;
             int undone = deeds() - n;
-            states = new ArrayList<>(states.subList(0, n + 1));
+            if (undone > 0) states = new ArrayList<>(states.subList(0, n + 1));
             return undone;
         }
 

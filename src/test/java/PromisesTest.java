@@ -74,7 +74,7 @@ public final class PromisesTest {
         promise1(); promise2(); promise3(); promise4(); promise5(); promise6(); promise7(); promise8(); promise9();
         promise10(); promise10Ends(); promise11(); promise12(); promise13(); promise14(); promise15(); promise16();
         promise17(); promise18(); promise19(); promise20(); promise21(); promise22(); promise23(); promise24();
-        promise25(); promise26(); promise27(); promise28(); promise29(); promise30(); promise31(); promise32();
+        promise25(); promise26(); promise27(); promise28(); promise29(); promise29AtTheEnd(); promise30(); promise31(); promise32();
         promise32Idle(); promise33(); promise34(); promise35(); promise36(); promise37(); promise38And39();
         promise40(); promise41And42(); promise43(); sparesStay();
         if (wrong != 0) System.exit(1);
@@ -91,7 +91,7 @@ public final class PromisesTest {
         due("1: reached", x.reached(0, 0), BAD);
         due("1: edge", x.edge(0, 0), BAD);
         due("1: rule", x.rule(0, 0), BAD);
-        due("1: undo", x.undo(0), BAD);
+        due("1: undo", x.undo(0), 0);
     }
 
     private static void promise2() {
@@ -812,17 +812,48 @@ public final class PromisesTest {
         due("29: undo", x.undo(9), 1);
         due("29: undo", x.undo(2), 7);
         due("29: as it was", x.digest(), two);
-        due("29: none such", x.undo(2), BAD);
+        due("29: from the end on", x.undo(2), 0);
+        due("29: as it was", x.digest(), two);
+        due("29: beyond the end", x.undo(3), BAD);
+        due("29: as it was", x.digest(), two);
         due("29: below", x.undo(-1), BAD);
         due("29: far", x.undo(FAR), BAD);
         due("29: all", x.undo(0), 2);
         due("29: as it was", x.digest(), start);
-        due("29: no deeds", x.undo(0), BAD);
-        due("29: no group", fresh().undo(0), BAD);
+        due("29: no deeds", x.undo(0), 0);
+        due("29: as it was", x.digest(), start);
+        due("29: no deeds, beyond", x.undo(1), BAD);
+        due("29: no group", fresh().undo(0), 0);
+        due("29: no group, beyond", fresh().undo(1), BAD);
+        due("29: no group, below", fresh().undo(-1), BAD);
         x.order(2);
         x.undo(0);
         due("29: the order too", x.count(3), 0);
         due("29: the tree too", x.digest(), start);
+    }
+
+    private static void promise29AtTheEnd() {
+        SubgroupWriter x = fresh();
+        due("29: no group", x.undo(0), 0);
+        for (int what = 0; what < 14; what++) due("29: no group, count " + what, x.count(what), 0);
+        type(x, 0, "a10 =aa");
+        due("29: group", x.group(0), 2);
+        due("29: order", x.order(1), 2);
+        long one = x.digest();
+        due("29: behind one deed", x.undo(1), 0);
+        due("29: behind one deed, further", x.undo(2), BAD);
+        due("29: the deed stays", x.count(8), 1);
+        due("29: its order stays", x.count(3), 1);
+        due("29: all stays", x.digest(), one);
+        due("29: the deed", x.undo(0), 1);
+        due("29: its order is gone", x.count(3), 0);
+        x.lots(10, 3);
+        x.lots(10, 4);
+        long twenty = x.digest();
+        due("29: behind twenty", x.undo(20), 0);
+        due("29: behind twenty, further", x.undo(21), BAD);
+        due("29: twenty stay", x.digest(), twenty);
+        due("29: no finding", x.finding(), 0);
     }
 
     private static void promise30() {
