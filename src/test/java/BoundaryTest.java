@@ -162,7 +162,7 @@ public final class BoundaryTest {
         relatorsThatMove(); endsOfTexts(); faultAndGroup(); groupAnew();
         goes(); treesOfThreeOrders(); deepGoesBack(); reachedAndWay(); edges(); kinds(); mark();
         written(); writtenRefused(); spelt(); speltRefused(); rules(); often(); alike();
-        order(); turn(); over(); join(); cut(); solve(); solvePuts(); shorten(); shortenChooses(); undo(); keepAndOn();
+        order(); turn(); over(); join(); cut(); solve(); solvePuts(); shorten(); shortenChooses(); undo(); keepAndOn(); keptDeeds();
         lots(); lotsOfEachKind(); lotsThatCannotBe(); lotsFull();
         rank(); ways(); odds(); mid(); asked(); upperAndLower(); counts(); findings(); digest();
         withoutGroup(); farNumbers();
@@ -422,6 +422,8 @@ public final class BoundaryTest {
     /** A FAULT at a place: fault() tells it, group() refuses; NONE: group() takes the TEXT. */
     private static void fault(String sentence, String text, int place) {
         SubgroupWriter x = of("a120=aaa");
+        // read twice, so that nothing can be left that was not read before
+        x.group(0);
         type(x, 2, text);
         due(sentence + " '" + text + "'", x.fault(2), place);
         if (place == NONE) {
@@ -603,6 +605,10 @@ public final class BoundaryTest {
         fault("a RELATOR that moves POINTS, ahead of a later FAULT", "a10=a=b", 3);
         fault("a RELATOR that moves POINTS, ahead of what ends it", "a10=a5", 3);
         fault("a RELATOR that moves POINTS, ahead of what ends it", "a10=a a", 3);
+        for (String sign : new String[] {"0", "d", "D", "@", "`", "=", "-", "z"}) {
+            fault("a RELATOR that moves POINTS, ahead of what ends it", "a10b01c01=a" + sign, 9);
+            fault("a RELATOR of eight that moves POINTS, ahead of what ends it", "a120b012=aaaaaaaa" + sign, 8);
+        }
         fault("a LETTER of no GENERATOR ends no RELATOR", "a10=ab", 5);
         fault("each POINT: 0 stays alone", "a021b120=a", 8);
         fault("each POINT: the last stays alone", "a102b120=a", 8);
@@ -689,6 +695,8 @@ public final class BoundaryTest {
         refused("11 of fewer POINTS", x, BAD, y -> y.goes(2, 1));
         refused("11 of fewer GENERATORS", x, BAD, y -> y.goes(0, 2));
         refused("11 of no RULES", x, BAD, y -> y.turn(0));
+        due("11 of fewer SIGNS", x.count(4), 1);
+        due("11 of fewer SIGNS that are LEFT", x.count(5), 1);
         x.text(1, 0);
         due("11 a GROUP stays when its TEXT is made anew", x.count(0), 2);
         due("11 a GROUP stays when its TEXT is made anew", x.goes(0, 1), 1);
@@ -770,6 +778,14 @@ public final class BoundaryTest {
         duePoint("DEEP: back again and again", z, 4, 1, 3, 2, 2);
         duePoint("DEEP: back again and again", z, 2, 0, 2, 1, 3);
         duePoint("DEEP: back again and again", z, 3, 0, 3, 1, 4);
+        SubgroupWriter w = of("a210b120");
+        w.order(2);
+        duePoint("DEEP by the first of a, A, b, B, c, C: B", w, 2, 0, 1, 1, 1);
+        duePoint("DEEP by the first of a, A, b, B, c, C: B", w, 1, 2, -2, 2, 2);
+        SubgroupWriter v = of("a102b012c201");
+        v.order(2);
+        duePoint("DEEP by the first of a, A, b, B, c, C: C", v, 1, 0, 1, 1, 1);
+        duePoint("DEEP by the first of a, A, b, B, c, C: C", v, 2, 1, -3, 2, 2);
     }
 
     private static void reachedAndWay() {
@@ -1339,6 +1355,13 @@ public final class BoundaryTest {
         due("27 one would have 16, REDUCED from 20", z.solve(1, 1), 5);
         dueRule("27 one would have 16, REDUCED from 20", z, 0,
                 -4, -2, -4, -2, -4, -2, -4, -2, -4, -2, -4, -2, -4, -2, -4, -2);
+        // RULES: 1 (7 times) 2; 2 5 5; 4 (7 times) 5; 5 3 2 2 -3: 2 is -5 -5, and once in the first
+        SubgroupWriter once = of("a10b01c01=bbbbbbbc=caccA");
+        due("27 16 SIGNS, one of them 2", once.join(0, 2), 16);
+        refused("27 SPENT: one that has the SIGN just once would have 17", once, SPENT, y -> y.solve(1, 2));
+        once.undo(0);
+        due("27 one that has the SIGN just once would have 9", once.solve(1, 2), 3);
+        dueRule("27 one that has the SIGN just once would have 9", once, 0, 1, 1, 1, 1, 1, 1, 1, -5, -5);
         refused("27 SPENT ahead of FULL", nine(19), SPENT, y -> y.solve(1, 1));
         refused("27 FULL", nine(19), FULL, y -> y.solve(1, 2));
         due("27 the 20th DEED", nine(18).solve(1, 2), 5);
@@ -1357,6 +1380,9 @@ public final class BoundaryTest {
         refused("27 STATE: twice", of(THREE), STATE, y -> y.solve(2, 3));
         refused("27 STATE: once above, once below 0", of(STUCK), STATE, y -> y.solve(3, 2));
         refused("27 STATE: of no SIGNS", of(EMPTY), STATE, y -> y.solve(0, 1));
+        refused("27 STATE ahead of SPENT: not in it", of(STUCK), STATE, y -> y.solve(0, 3));
+        refused("27 STATE ahead of SPENT: eight times", of(STUCK), STATE, y -> y.solve(0, 1));
+        refused("27 STATE ahead of SPENT: eight times", of(STUCK), STATE, y -> y.solve(2, 3));
         refused("27 STATE ahead of FULL", behind(20, THREE, 0), STATE, y -> y.solve(0, 1));
         refused("27 STATE ahead of FULL", behind(20, THREE, 0), STATE, y -> y.solve(2, 3));
         refused("27 FULL", behind(20, THREE, 0), FULL, y -> y.solve(0, 2));
@@ -1449,6 +1475,19 @@ public final class BoundaryTest {
         due("28 of RULES by how many SIGNS they have", z.shorten(), 2);
         dueRule("28 of RULES by how many SIGNS they have", z, 0, 1, 1);
         dueRule("28 of RULES by how many SIGNS they have", z, 1, 4, 4);
+        // RULES: 3 3 2; 2 1 1: by the first 2 is -3 -3, by the other one it would be -1 -1
+        SubgroupWriter like = of("a10b01=abba");
+        due("28 of like ones the first", like.shorten(), 1);
+        dueRule("28 of like ones the first", like, 0, -3, -3, 1, 1);
+        // RULES: 1 2 1 2; 2 1 2 1; 1 2 5 5; 4 5 4 5; 5 4 5 4; 4 5 3 2 2 -3: the first two, once SOLVED, were not ALIKE
+        SubgroupWriter ahead = of("a10b01c01=bcbc=cbcb=bcaccA");
+        due("28 the first RULE that can be CUT is; else one is SOLVED", ahead.shorten(), 4);
+        dueRule("28 the first RULE that can be CUT is; else one is SOLVED", ahead, 0, -5, -5, -5, -5);
+        dueRule("28 the first RULE that can be CUT is; else one is SOLVED", ahead, 1, 3, -2, -2, -2, -2, -3);
+        // RULES: 1 1; -2; 3 3; -4; 6 6; -7; 8 8; -9; 10 10; -11
+        SubgroupWriter far = of("a12340b01234c01234=bb=C");
+        due("28 the last SIGN by the last RULE", far.shorten(), 5);
+        due("28 the last SIGN by the last RULE", far.count(5), 0b01010110101);
         // RULES: 1 (8 times); 1 2 4 5; 4 (8 times); 4 5 3 1 2 -3: by 1 the first would have 24
         SubgroupWriter w = of("a10b01c01=bbbbbbbb=bcabcA");
         due("28 by which no other RULE would have more than 16", w.shorten(), 1);
@@ -1545,6 +1584,37 @@ public final class BoundaryTest {
         due("30 kept over another one", x.keep(0), 3);
         due("31 the later one", x.on(0), 3);
         due("30 still three kept", x.count(13), 3);
+    }
+
+    /** A BOOK is kept behind one DEED, then another DEED stands in its place. */
+    private static void dueKept(String sentence, Call deed, Call other) {
+        SubgroupWriter x = of(THREE);
+        due(sentence + ", can be", deed.on(x) >= 0 ? 1 : 0, 1);
+        due(sentence + ", kept", x.keep(1), 1);
+        long before = x.digest();
+        x.undo(0);
+        due(sentence + ", another one can be", other.on(x) >= 0 ? 1 : 0, 1);
+        due(sentence + ", on", x.on(1), 1);
+        due(sentence + ", as it was kept", x.digest(), before);
+        x.undo(0);
+        due(sentence + ", undone", x.count(7), 17);
+        due(sentence + ", on again", x.on(1), 1);
+        due(sentence + ", as it was kept still", x.digest(), before);
+    }
+
+    private static void keptDeeds() {
+        dueKept("31 TURNED", y -> y.turn(5), y -> y.turn(8));
+        dueKept("31 TURNED", y -> y.turn(5), y -> y.over(5));
+        dueKept("31 TURNED OVER", y -> y.over(5), y -> y.over(8));
+        dueKept("31 JOINED", y -> y.join(1, 5), y -> y.join(1, 2));
+        dueKept("31 JOINED", y -> y.join(1, 5), y -> y.join(2, 5));
+        dueKept("31 CUT", y -> y.cut(4), y -> y.cut(3));
+        dueKept("31 SOLVED", y -> y.solve(5, 4), y -> y.solve(5, 1));
+        dueKept("31 SOLVED", y -> y.solve(5, 4), y -> y.solve(8, 4));
+        dueKept("31 SHORTENED", y -> y.shorten(), y -> y.turn(5));
+        dueKept("31 ORDERED", y -> y.order(2), y -> y.order(1));
+        dueKept("31 by LOTS", y -> y.lots(1, seedFor(2, 8, 9)), y -> y.lots(1, seedFor(2, 7, 9)));
+        dueKept("31 by LOTS, nothing", y -> y.lots(1, seedFor(3, 0, 9)), y -> y.lots(1, seedFor(5, 0, 9)));
     }
 
     private static int next(long number) {
@@ -1662,6 +1732,12 @@ public final class BoundaryTest {
         one.shorten();
         due("32 one RULE", one.count(6), 1);
         dueIdle("32 can't be JOINED: with itself", one, 2, 0);
+        SubgroupWriter last = of("a10b01=b=aA");
+        last.solve(0, 1);
+        last.cut(0);
+        last.cut(1);
+        dueRule("32 one RULE", last, 0, 3);
+        dueIdle("32 can't be JOINED: with itself", last, 2, 0);
         dueIdle("32 can't be CUT", of(THREE), 3, 0);
         dueIdle("32 can't be CUT: ALIKE a later one", of(THREE), 3, 5);
         dueIdle("32 can't be SOLVED: no SIGN just once", of(THREE), 4, 2);
@@ -1716,6 +1792,10 @@ public final class BoundaryTest {
             dueRank("33 no SIGNS are LEFT", gone, p, 0, 0);
             dueRank("33 more RULES than SIGNS", of(THREE), p, p == 2 ? 3 : 4, p == 2 ? 1 : 0);
             dueRank("33 all 15 RULES", of("a12340b01234c01234=b=cc=bC"), p, 10, 1);
+            // RULES: 1 2 -1 -2; 4 5 -4 -5
+            dueRank("33 less how often below 0: none", of("a10b01c01=bcBC"), p, 0, 5);
+            // RULES: 1 2 1 -2; 4 5 4 -5
+            dueRank("33 less how often below 0: twice", of("a10b01c01=bcbC"), p, p == 2 ? 0 : 2, p == 2 ? 5 : 3);
         }
         // RULES: 3; 2 1 -2
         dueRank("33 less how often below 0", of("a10b01=abA"), 2, 2, 1);

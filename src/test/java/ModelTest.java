@@ -13,23 +13,29 @@ import java.util.TreeSet;
  */
 public final class ModelTest {
     private static final Random DRAW = new Random(20261117L);
+    private static final int MOST_CALLS = 512, LOOK = 5, LOOK_AT_ALL = 33;
     private static int wrong = 0;
 
     public static void main(String[] args) throws Exception {
-        for (int run = 0; run < 600 && wrong < 20; run++) oneRun(run, run % 2 == 1);
+        for (int run = 0; run < 1600 && wrong < 20; run++) oneRun(run, run % 2 == 1);
         faults();
         if (wrong != 0) System.exit(1);
         System.out.println("the model agrees");
     }
 
-    /** Some runs are of DEEDS for the most part, for rows and texts take up many calls. */
+    /**
+     * Some runs are of DEEDS for the most part, for rows and texts take up many calls. An object is asked 512 times at
+     * most: some runs look at what is told behind every call, so they are shorter, others now and then.
+     */
     private static void oneRun(int run, boolean deedful) throws Exception {
         SubgroupWriter x = new SubgroupWriter();
         Model m = new Model();
         StringBuilder trace = new StringBuilder();
         List<Object[]> plan = new ArrayList<>();
-        for (int n = 0; n < 500 && wrong < 20; n++) {
+        int asked = 0;
+        for (int n = 0; asked < MOST_CALLS - LOOK - LOOK_AT_ALL && wrong < 20; n++) {
             if (plan.isEmpty()) plan.addAll(drawCalls(m, n, deedful));
+            if (plan.isEmpty()) continue;
             Object[] call = plan.remove(0);
             String name = (String) call[0];
             Class<?>[] types = new Class<?>[call.length - 1];
@@ -37,8 +43,12 @@ public final class ModelTest {
             Object[] values = Arrays.copyOfRange(call, 1, call.length);
             long got = ask(SubgroupWriter.class.getMethod(name, types), x, values);
             long due = ask(Model.class.getMethod(name, types), m, values);
+            asked++;
             trace.append(name).append(Arrays.toString(values)).append(' ');
-            if (got != due || !sameState(x, m)) {
+            boolean looks = run % 4 < 2 ? !name.equals("put") : n % 20 == 19;
+            if (looks) asked += LOOK;
+            boolean last = asked >= MOST_CALLS - LOOK - LOOK_AT_ALL;
+            if (got != due || looks && !sameTold(x, m) || last && !sameState(x, m)) {
                 wrong++;
                 System.out.println("run " + run + ": " + name + Arrays.toString(values) + " answered " + got + ", due is "
                         + due + "; told " + x.asked() + "/" + m.asked() + " behind " + tail(trace));
@@ -55,9 +65,15 @@ public final class ModelTest {
         return ((Number) method.invoke(of, values)).longValue();
     }
 
-    private static boolean sameState(SubgroupWriter x, Model m) {
-        boolean same = x.asked() == m.asked() && x.upper() == m.upper() && x.lower() == m.lower()
+    /** LOOK calls. */
+    private static boolean sameTold(SubgroupWriter x, Model m) {
+        return x.asked() == m.asked() && x.upper() == m.upper() && x.lower() == m.lower()
                 && x.finding() == m.finding() && x.digest() == m.digest();
+    }
+
+    /** LOOK_AT_ALL calls. */
+    private static boolean sameState(SubgroupWriter x, Model m) {
+        boolean same = sameTold(x, m);
         for (int f = -1; f < 8; f++) same &= x.findings(f) == m.findings(f);
         for (int w = -2; w < 17; w++) same &= x.count(w) == m.count(w);
         return same;

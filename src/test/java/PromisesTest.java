@@ -899,7 +899,8 @@ public final class PromisesTest {
     }
 
     /** One lot on one object, the DEED itself on another one. */
-    private static void dueLot(SubgroupWriter x, int seed) {
+    private static void dueLot(int seed) {
+        SubgroupWriter x = of(THREE);
         SubgroupWriter y = of(THREE);
         int number = next(seed);
         int i = number / 64 % 9;
@@ -924,14 +925,13 @@ public final class PromisesTest {
             }
         }
         if (done >= 0) due("32: all by " + seed, x.digest(), y.digest());
-        x.undo(0);
     }
 
     private static void promise32() {
+        for (int k = 1; k <= 100; k++) dueLot(21 * k);
+        dueLot(2147483646);
+        dueLot(1);
         SubgroupWriter x = of(THREE);
-        for (int k = 1; k <= 100; k++) dueLot(x, 21 * k);
-        dueLot(x, 2147483646);
-        dueLot(x, 1);
         due("32: one ahead of the other", x.lots(2, 77), x.count(6));
         long both = x.digest();
         x.undo(0);
@@ -964,8 +964,8 @@ public final class PromisesTest {
             x.undo(0);
         }
         // of no SIGNS: only CUT, ORDERED, JOINED can be; STUCK: SOLVED can't be
-        SubgroupWriter y = of(STUCK);
         for (int seed = 1; seed < 4000; seed += 37) {
+            SubgroupWriter y = of(STUCK);
             long before = y.digest();
             y.lots(1, seed);
             int kind = next(seed) / 8 % 6;
